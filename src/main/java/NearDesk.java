@@ -18,8 +18,10 @@ public final class NearDesk {
     private static final int MOST_FOUND = 10;
     private static final int FUSED_POINTS = 1000;
     private static final int FUSED_OFFSET = 10;
-    private static final int TOP_LEVEL = 3;
-    private static final int LAYERS = 4;
+    private static final int MOST_LEVEL = 3;
+    private static final int LAYERS = MOST_LEVEL + 1;
+    private static final boolean LEAST_FIRST = false;
+    private static final boolean GREATEST_FIRST = true;
 
     private final Documents documents = new Documents();
     private final Graph graph = new Graph();
@@ -71,7 +73,7 @@ public final class NearDesk {
         if (!isWithin(k, 1, MOST_FOUND) || !isWithin(width, 1, MOST_FOUND)) {
             return REFUSED;
         }
-        results.start(k, false);
+        results.start(k, LEAST_FIRST);
         searchInto(results, Math.max(k, width));
         return results.size();
     }
@@ -80,7 +82,7 @@ public final class NearDesk {
         if (!isWithin(k, 1, MOST_FOUND)) {
             return REFUSED;
         }
-        results.start(k, false);
+        results.start(k, LEAST_FIRST);
         documents.rankByDistance(asked, results);
         return results.size();
     }
@@ -89,7 +91,7 @@ public final class NearDesk {
         if (!isWithin(k, 1, MOST_FOUND) || !isWithin(set, 0, MOST_SET)) {
             return REFUSED;
         }
-        results.start(k, true);
+        results.start(k, GREATEST_FIRST);
         documents.rankByScore(set, results);
         return results.size();
     }
@@ -99,13 +101,13 @@ public final class NearDesk {
             return REFUSED;
         }
         clearPoints();
-        scratch.start(MOST_FOUND, true);
+        scratch.start(MOST_FOUND, GREATEST_FIRST);
         documents.rankByScore(set, scratch);
         addPoints(scratch);
-        scratch.start(MOST_FOUND, false);
+        scratch.start(MOST_FOUND, LEAST_FIRST);
         searchInto(scratch, MOST_FOUND);
         addPoints(scratch);
-        results.start(k, true);
+        results.start(k, GREATEST_FIRST);
         rankByPoints(results);
         return results.size();
     }
@@ -129,7 +131,7 @@ public final class NearDesk {
     }
 
     public int node(int n, int what) {
-        if (!isWithin(what, 0, 7) && !isWithin(what, 10, 9 + LAYERS)) {
+        if (!isWithin(what, 0, 7) && !isWithin(what, 10, 10 + MOST_LEVEL)) {
             return REFUSED;
         }
         if (!graph.links.isNode(n)) {
@@ -218,7 +220,7 @@ public final class NearDesk {
     }
 
     private int foundAmongNearest() {
-        scratch.start(results.size(), false);
+        scratch.start(results.size(), LEAST_FIRST);
         documents.rankByDistance(asked, scratch);
         int shared = 0;
         for (int i = 0; i < results.size(); i++) {
@@ -277,10 +279,10 @@ public final class NearDesk {
         private int room;
         private boolean greatestFirst;
 
-        void start(int newRoom, boolean byGreatest) {
+        void start(int newRoom, boolean newOrder) {
             size = 0;
             room = Math.min(newRoom, DOCUMENTS);
-            greatestFirst = byGreatest;
+            greatestFirst = newOrder == GREATEST_FIRST;
         }
 
         void changeRoom(int newRoom) {
@@ -320,7 +322,7 @@ public final class NearDesk {
         /** Answers whether the number got a place. */
         boolean add(int number, int value) {
             if (isFull()) {
-                if (size == 0 || lastPrecedes(number, value)) {
+                if (size == 0 || !precedes(number, value, numbers[size - 1], values[size - 1])) {
                     return false;
                 }
                 size--;
@@ -392,10 +394,6 @@ public final class NearDesk {
 
         int counts(int n) {
             return countsOfWords[n];
-        }
-
-        int distanceBetween(int n, int other) {
-            return distance(vectors[n], vectors[other]);
         }
 
         void measure(int[] v, int[] distances) {
@@ -593,7 +591,7 @@ public final class NearDesk {
         private static int levelOf(int order) {
             int level = 0;
             int rest = order;
-            while (level < TOP_LEVEL && rest % 3 == 0) {
+            while (level < MOST_LEVEL && rest % 3 == 0) {
                 rest /= 3;
                 level++;
             }
@@ -610,12 +608,12 @@ public final class NearDesk {
 
         void standAt(Documents documents, int[] v, int n) {
             documents.measure(v, distances);
-            held.start(1, false);
+            held.start(1, LEAST_FIRST);
             held.add(n, distances[n]);
         }
 
         void standNowhere() {
-            held.start(0, false);
+            held.start(0, LEAST_FIRST);
         }
 
         Ranking held() {
@@ -642,7 +640,7 @@ public final class NearDesk {
                 seen |= 1 << held.numberAt(i);
             }
             held.changeRoom(width);
-            open.start(DOCUMENTS, false);
+            open.start(DOCUMENTS, LEAST_FIRST);
             for (int i = 0; i < held.size(); i++) {
                 open.add(held.numberAt(i), held.valueAt(i));
             }
@@ -698,9 +696,9 @@ public final class NearDesk {
             taken |= 1 << n;
         }
 
-        private boolean isNearestToVector(Documents documents, int n, int distance) {
+        private boolean isNearestToVector(Documents documents, int n, int distanceToVector) {
             for (int i = 0; i < size; i++) {
-                if (distance >= documents.distanceBetween(n, row[i])) {
+                if (distanceToVector >= distance(documents.vector(n), documents.vector(row[i]))) {
                     return false;
                 }
             }
@@ -751,10 +749,12 @@ public final class NearDesk {
             }
             int level = links.level(n);
             walker.standAt(documents, documents.vector(n), entry);
-            seenInEntering += descend(level);
-            for (int layer = Math.min(level, top()); layer >= 0; layer--) {
-                seenInEntering += walker.walk(links, layer, WIDTH_TO_ENTER);
-                link(documents, n, layer);
+            for (int layer = top(); layer >= 0; layer--) {
+                boolean isAbove = layer > level;
+                seenInEntering += walker.walk(links, layer, isAbove ? WIDTH_ABOVE : WIDTH_TO_ENTER);
+                if (!isAbove) {
+                    link(documents, n, layer);
+                }
             }
             if (level > top()) {
                 entry = n;
@@ -767,18 +767,11 @@ public final class NearDesk {
                 walker.standNowhere();
             } else {
                 walker.standAt(documents, v, entry);
-                seenInSearches += descend(0);
-                seenInSearches += walker.walk(links, 0, width);
+                for (int layer = top(); layer >= 0; layer--) {
+                    seenInSearches += walker.walk(links, layer, layer > 0 ? WIDTH_ABOVE : width);
+                }
             }
             return walker.held();
-        }
-
-        private int descend(int level) {
-            int seen = 0;
-            for (int layer = top(); layer > level; layer--) {
-                seen += walker.walk(links, layer, WIDTH_ABOVE);
-            }
-            return seen;
         }
 
         private void link(Documents documents, int n, int layer) {
@@ -794,10 +787,10 @@ public final class NearDesk {
         }
 
         private void shorten(Documents documents, int n, int layer) {
-            candidates.start(DOCUMENTS, false);
+            candidates.start(DOCUMENTS, LEAST_FIRST);
             for (int i = 0; i < links.degree(n, layer); i++) {
                 int other = links.linked(n, layer, i);
-                candidates.add(other, documents.distanceBetween(n, other));
+                candidates.add(other, distance(documents.vector(n), documents.vector(other)));
             }
             chooser.choose(documents, candidates, links.most(layer));
             links.replace(n, layer, chooser);
