@@ -15,6 +15,14 @@ final class Checks {
         same(call, got ? 1 : 0, due ? 1 : 0);
     }
 
+    void same(String call, String got, String due) {
+        done++;
+        if (!got.equals(due)) {
+            wrong++;
+            System.out.println(call + " answered " + got + ", due is " + due);
+        }
+    }
+
     void isTrue(String claim, boolean holds) {
         done++;
         if (!holds) {
