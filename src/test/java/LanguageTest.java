@@ -24,6 +24,9 @@ public final class LanguageTest {
         "->", "::", "\\bimport\\b", "\\bpackage\\b", "\\bSystem\\b", "\\bRandom\\b", "\\bThread\\b",
         "\\bObject\\b", "\\bhashCode\\b", "\\btoString\\b", "Exact\\b", "\\bstatic\\s*\\{"};
 
+    /** Those of rule 4 that the class has use for. */
+    private static final Set<String> LIBRARY = Set.of("Math.max", "Math.min", "Integer.bitCount");
+
     public static void main(String[] args) throws IOException {
         Checks checks = new Checks();
         face(checks);
@@ -108,6 +111,10 @@ public final class LanguageTest {
         for (String line : code.split("\n")) {
             checks.isTrue("made with the object, not by a call: " + line.trim(),
                     !line.contains("new ") || line.trim().startsWith("private final "));
+        }
+        Matcher library = Pattern.compile("\\b[A-Z]\\w*\\.\\w+").matcher(code);
+        while (library.find()) {
+            checks.isTrue(library.group() + " is a function that rule 4 names", LIBRARY.contains(library.group()));
         }
         Matcher method = Pattern.compile("(?m)^( {4}| {8})(?! )[^\\n;=]*\\) \\{\\n(?s:.*?)^\\1\\}").matcher(code);
         int methods = 0;
